@@ -1012,55 +1012,75 @@ public final class BesomYard {
     /** Goes through all rows of cuts in their order, so that the first of the best is the one that stays. */
     private static final class Planner {
         static final int YEARS = 4;
+        private static final int ROWS_MOST = 2401;
         private static final int NOTHING = -5;
-        private static final int UNCUT = -1;
+        // One below PART 0, so that counting on goes from none to it.
+        private static final int NO_PART = -1;
 
-        private int years;
         private int most;
-        private final int[] cutIn = new int[Told.ITEMS];
         private final int[] row = new int[YEARS];
         private final int[] best = new int[YEARS];
+        // What is got ahead of a year: kept for the years that the next row leaves as they are.
+        private final int[] got = new int[YEARS + 1];
 
         int mostTwigs() {
             return most;
         }
 
         int chosenIn(int k) {
-            return k < 0 || k >= YEARS ? NONE : best[k];
+            if (k < 0 || k >= YEARS) {
+                return NONE;
+            }
+            return best[k] == NO_PART ? NOTHING : best[k];
         }
 
         void find(Told told, Moment start, int n) {
-            years = Math.min(YEARS, n);
+            int years = Math.max(0, Math.min(YEARS, n));
             most = -1;
-            for (int p = 0; p < cutIn.length; p++) {
-                cutIn[p] = UNCUT;
+            for (int year = 0; year < YEARS; year++) {
+                row[year] = NO_PART;
             }
-            goThrough(told, start, 0, 0);
+            int changed = 0;
+            for (int i = 0; i < ROWS_MOST && changed >= 0; i++) {
+                for (int year = changed; year < years; year++) {
+                    got[year + 1] = got[year] + gotIn(year, told, start);
+                }
+                compare(got[years]);
+                changed = goToNextRow(years, told.parts());
+            }
         }
 
-        private void goThrough(Told told, Moment start, int year, int twigs) {
-            if (year < 0 || year >= years || year >= YEARS) {
-                compare(twigs);
-                return;
+        private int gotIn(int year, Told told, Moment start) {
+            int p = row[year];
+            if (p == NO_PART) {
+                return 0;
             }
-            row[year] = NOTHING;
-            goThrough(told, start, year + 1, twigs);
-            for (int p = 0; p < told.parts() && p < cutIn.length; p++) {
-                int cutBefore = cutIn[p];
-                int age = cutBefore == UNCUT ? start.age(p) + year : year - cutBefore;
-                int got = gift(told.value(Told.SIZE, p), age, told.ripe());
-                row[year] = p;
-                cutIn[p] = year;
-                goThrough(told, start, year + 1, twigs + got);
-                cutIn[p] = cutBefore;
+            int age = start.age(p) + year;
+            for (int before = 0; before < year; before++) {
+                if (row[before] == p) {
+                    age = year - before;
+                }
             }
+            return gift(told.value(Told.SIZE, p), age, told.ripe());
+        }
+
+        /** The first year that has another choice then; -1 behind the last row. */
+        private int goToNextRow(int years, int parts) {
+            for (int year = years - 1; year >= 0; year--) {
+                if (row[year] + 1 < parts) {
+                    row[year]++;
+                    return year;
+                }
+                row[year] = NO_PART;
+            }
+            return -1;
         }
 
         private void compare(int twigs) {
             if (twigs > most) {
                 most = twigs;
-                for (int k = 0; k < YEARS; k++) {
-                    best[k] = row[k];
+                for (int year = 0; year < YEARS; year++) {
+                    best[year] = row[year];
                 }
             }
         }

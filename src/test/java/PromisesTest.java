@@ -220,16 +220,20 @@ public final class PromisesTest {
         Check.type(y, "1 1 1;");
         due("the text goes on", y.yard(), 2);
         due("what was told behind it", y.part(0, 0), 1);
+        due("a fault's items are not told twice", y.count(0), 1);
+        due("a fault's items are not told twice, orders", y.count(1), 1);
     }
 
     private static void yardTellsAllAnew() {
-        BesomYard y = Check.told("w3 9;o5 2 7;r5;t4;p2;l4;");
+        BesomYard y = Check.told("w9 5;o5 2 7;r5;t4;p2;l4;");
         y.cuts(0);
         y.year();
-        y.binds(1);
+        y.binds(3);
+        y.sends(0);
         y.sweeps();
         y.spins(3);
         y.saw(0, 0, 4);
+        dueAll("before: now", nows(y), 2, 1, 15, 1, 7, 1, 3, 6);
         y.keep(0);
         y.keep(1);
         y.rate(3, 0);
@@ -250,6 +254,13 @@ public final class PromisesTest {
         z.yard();
         due("anew: not sent", z.order(0, 3), 0);
         due("anew: sent bits", z.now(5), 0);
+        Check.type(z, "r5;w2 2;w3 3;");
+        due("a third text", z.yard(), 3);
+        dueAll("a third text: count", counts(z), 2, 0, 5, 3, 11, 9, 0, 0);
+        Check.type(z, "w4 4;");
+        due("a fourth text", z.yard(), 1);
+        dueAll("a fourth text: count", counts(z), 1, 0, 9, 3, 11, 9, 0, 0);
+        due("a fourth text: size", z.part(0, 0), 4);
     }
 
     // Promises 5 to 8
@@ -319,6 +330,12 @@ public final class PromisesTest {
         due("THE YEAR", y.now(1), 11);
         due("cut of 13 years", y.cuts(2), 6);
         due("stack adds", y.now(2), 27);
+        BesomYard long999 = new BesomYard();
+        for (int i = 1; i <= 999; i++) {
+            due("year", long999.year(), i);
+        }
+        due("YEAR 999", long999.year(), STATE);
+        due("YEAR stays", long999.now(1), 999);
     }
 
     // Promise 11
@@ -722,6 +739,8 @@ public final class PromisesTest {
         due("not enough", none.cutFor(), NONE);
         BesomYard few = Check.told("w1 9;w1 9;w1 9;w2 9;o9 1 1;t14;");
         due("fewest ahead of least bits", few.cutFor(), 8);
+        BesomYard six = Check.told("w1 9;w1 9;w1 9;w1 9;w1 9;w1 9;o9 6 1;t7;");
+        due("all six", six.cutFor(), 63);
         due("nothing was cut", few.now(2), 0);
     }
 
