@@ -233,6 +233,11 @@ public final class WoodBoundsTest {
                 plan 4 3 = -5
                 plan 3 3 = NONE
                 """);
+        // Which part, as the first thing that an object is ever asked: nothing was reckoned ahead of it.
+        B.runNew("plan 1 0 = -5");
+        B.runNew("plan 4 3 = -5");
+        B.run("w9 0;", "plan 3 0 = -5");
+        B.run("w9 30;w9 0;r3;", "plan 4 0 = -5");
         // Parts that give nothing in time: none is ahead of them.
         B.run("w9 0;w9 30;r3;", """
                 plan 3 -1 = 0
