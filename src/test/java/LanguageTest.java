@@ -26,6 +26,10 @@ public final class LanguageTest {
     public static void main(String[] args) throws Exception {
         face();
         names();
+        sizes(BesomYard.class);
+        for (Class<?> inside : BesomYard.class.getDeclaredClasses()) {
+            sizes(inside);
+        }
         words();
         room();
         CHECK.finish();
@@ -59,10 +63,15 @@ public final class LanguageTest {
         for (Field f : BesomYard.class.getDeclaredFields()) {
             if (!Modifier.isPrivate(f.getModifiers())) {
                 fields.add(f.getName());
+                CHECK.due(f.getName() + " is public static final", f.getModifiers(),
+                        Modifier.PUBLIC | Modifier.STATIC | Modifier.FINAL);
+                CHECK.due(f.getName() + " is an int", f.getType() == int.class ? 1 : 0, 1);
             }
         }
         sameSet("constants", fields, Set.of(CONSTANTS));
         CHECK.due("one constructor", BesomYard.class.getDeclaredConstructors().length, 1);
+        CHECK.due("it is public", BesomYard.class.getDeclaredConstructors()[0].getModifiers(), Modifier.PUBLIC);
+        CHECK.due("it takes nothing", BesomYard.class.getDeclaredConstructors()[0].getParameterCount(), 0);
         CHECK.due("public, final", BesomYard.class.getModifiers(), Modifier.PUBLIC | Modifier.FINAL);
         CHECK.due("twelve classes at most", BesomYard.class.getDeclaredClasses().length < 12 ? 1 : 0, 1);
     }
@@ -86,6 +95,17 @@ public final class LanguageTest {
                 CHECK.due(inside + " " + f.getName(), changing ? 1 : 0, 0);
             }
         }
+    }
+
+    private static void sizes(Class<?> type) {
+        for (Method m : type.getDeclaredMethods()) {
+            CHECK.due(type + " " + m.getName() + ": seven parameters at most", m.getParameterCount() > 7 ? 1 : 0, 0);
+        }
+        int fields = 0;
+        for (Field f : type.getDeclaredFields()) {
+            fields += Modifier.isStatic(f.getModifiers()) ? 0 : 1;
+        }
+        CHECK.due(type + ": twenty fields at most, it has " + fields, fields > 20 ? 1 : 0, 0);
     }
 
     private static void words() throws Exception {
